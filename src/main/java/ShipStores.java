@@ -325,13 +325,7 @@ public final class ShipStores {
         requireWithin(what, 0, 4);
         trial.become(ship);
         trial.passDays(days);
-        switch (what) {
-            case 0: return trial.kinds.eaten.sum() - ship.kinds.eaten.sum();
-            case 1: return trial.kinds.spoiled.sum() - ship.kinds.spoiled.sum();
-            case 2: return trial.kinds.lacking.sum() - ship.kinds.lacking.sum();
-            case 3: return trial.hungryDays - ship.hungryDays;
-            default: return trial.lots.rations();
-        }
+        return outcomeOfTrial(what);
     }
 
     public int spoils(int kind, int days) throws IndexOutOfBoundsException, IllegalArgumentException {
@@ -416,7 +410,8 @@ public final class ShipStores {
             for (int what = 0; what <= 9; what++) {
                 hash = 31 * hash + kind(kind, what);
             }
-            hash = 31 * hash + shortIn(kind);
+            trial.become(ship);
+            hash = 31 * hash + trial.firstShort(kind, MAX_DAYS);
             hash = 31 * hash + bestStore(kind);
         }
         for (int port = 0; port < ship.ports.number; port++) {
@@ -433,8 +428,10 @@ public final class ShipStores {
                 }
             }
         }
+        trial.become(ship);
+        trial.passDays(DIGEST_DAYS);
         for (int what = 0; what <= 4; what++) {
-            hash = 31 * hash + ifPass(DIGEST_DAYS, what);
+            hash = 31 * hash + outcomeOfTrial(what);
         }
         hash = 31 * hash + bitsOf(meanAge());
         hash = 31 * hash + text.length;
@@ -442,6 +439,17 @@ public final class ShipStores {
             hash = 31 * hash + text.codes.at(index);
         }
         return hash;
+    }
+
+    /** What the days that passed on the trial alone have brought. */
+    private int outcomeOfTrial(int what) {
+        switch (what) {
+            case 0: return trial.kinds.eaten.sum() - ship.kinds.eaten.sum();
+            case 1: return trial.kinds.spoiled.sum() - ship.kinds.spoiled.sum();
+            case 2: return trial.kinds.lacking.sum() - ship.kinds.lacking.sum();
+            case 3: return trial.hungryDays - ship.hungryDays;
+            default: return trial.lots.rations();
+        }
     }
 
     /**

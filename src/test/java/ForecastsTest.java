@@ -91,6 +91,14 @@ public final class ForecastsTest {
         CHECKS.equal("eaten and short are what these days need, without those before",
             ship.ifPass(3, 0) + ship.ifPass(3, 2), 30);
         CHECKS.holds("days can be hungry", ship.ifPass(60, 3) > 0);
+        ShipStores later = Ships.inPort();
+        later.buy(1, 12, 1);
+        Checks.serve(later, "0*1");
+        later.pass(5);
+        int[] due = {0, 0, 20, 2, 0};
+        for (int what = 0; what <= 4; what++) {
+            CHECKS.equal("what was before does not count: ifPass(2, " + what + ")", later.ifPass(2, what), due[what]);
+        }
         for (int bad : new int[] {0, 61, -1, Integer.MIN_VALUE, Integer.MAX_VALUE}) {
             CHECKS.refused("ifPass(" + bad + ", 0)", ship, ARGUMENT, () -> ship.ifPass(bad, 0));
         }
@@ -245,6 +253,16 @@ public final class ForecastsTest {
         CHECKS.equal("a lot beyond the 30", full.leastPurchase(0, 2), 10);
         full.setCrew(20);
         CHECKS.equal("a greater lot beyond the 30", full.leastPurchase(0, 2), 50);
+        Checks.serve(full, "1*2");
+        CHECKS.equal("a lot of another kind beyond the 30", full.leastPurchase(1, 2), 80);
+        CHECKS.equal("it keeps for a day in 0", full.leastPurchase(1, 0), ShipStores.NONE);
+        ShipStores fresh = new ShipStores();
+        fresh.addKind(3, 3, 3);
+        fresh.addPort(0, 900);
+        fresh.addPort(4, 900);
+        fresh.setCrew(3);
+        Checks.serve(fresh, "0*1");
+        CHECKS.equal("it is quite fresh: 999 on the last morning", fresh.leastPurchase(0, 0), 20);
     }
 
     private static void cheapest() {
@@ -286,6 +304,9 @@ public final class ForecastsTest {
         meanIs(ship, 0.0);
         ship.pass(1);
         meanIs(ship, 100.0);
+        ship.discard(0, 99);
+        meanIs(ship, 100.0);
+        ship.undo();
         ship.undo();
         ship.buy(1, 3, 2);
         ship.buy(0, 4, 1);
@@ -304,6 +325,7 @@ public final class ForecastsTest {
         ship.clearBuffer();
         CHECKS.equal("digest with a clear buffer", ship.digest(), digestOf(ship, 0));
         ShipStores provisioned = provisioned();
+        provisioned.addPort(17, 5);
         for (int days = 0; days < 30; days++) {
             CHECKS.equal("digest on the day " + days, provisioned.digest(), digestOf(provisioned, 0));
             provisioned.pass(1);

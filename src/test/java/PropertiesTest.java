@@ -9,6 +9,7 @@ public final class PropertiesTest {
         lot();
         daysLeft();
         eatingPlace();
+        theLastLot();
         store();
         kind();
         port();
@@ -87,6 +88,30 @@ public final class PropertiesTest {
         for (int lot = 0; lot < warm.length; lot++) {
             CHECKS.equal("its place with 2 warm", ship.lot(lot, 5), warm[lot]);
         }
+    }
+
+    /** 30 lots, the last of which differs from all that are before it. */
+    private static void theLastLot() {
+        ShipStores ship = Ships.inPort();
+        for (int lot = 0; lot < 28; lot++) {
+            ship.buy(0, 1, 0);
+        }
+        ship.buy(1, 7, 1);
+        ship.removePort(0);
+        ship.addPort(0, 800);
+        ship.setPrice(0, 1, 1);
+        ship.buy(1, 9, 2);
+        int[] due = {1, 2, 9, 800, 10, 1};
+        for (int what = 0; what <= 5; what++) {
+            CHECKS.equal("lot(29, " + what + ")", ship.lot(29, what), due[what]);
+        }
+        ship.setCrew(1);
+        ship.warm(2, 1);
+        Checks.serve(ship, "1*8");
+        ship.pass(1);
+        CHECKS.equal("it was eaten first", ship.kind(1, 5), 1);
+        CHECKS.equal("the other is left", ship.kind(1, 7), 7);
+        CHECKS.equal("29 lots are left", ship.count(2), 29);
     }
 
     private static void store() {

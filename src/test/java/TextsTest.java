@@ -44,11 +44,12 @@ public final class TextsTest {
         Checks.write(ship, text);
         long before = ship.digest();
         CHECKS.equal("firstError of " + text, ship.firstError(), due);
+        CHECKS.equal("firstError again of " + text, ship.firstError(), due);
         CHECKS.equal("firstError changes nothing", ship.digest(), before);
     }
 
     private static void firstError() {
-        String[] right = {"", "-", "0", "0*", "0*1", "0*1/", "0*1/1", "7*9/6", "-;", "0*1,", "0*1;", "0*1/2,", "0*1/2;",
+        String[] right = {"", "-", "0", "0*", "0*1", "0*1/", "0*1/1", "7*9/6", "0*1/7", "-;", "0*1,", "0*1;", "0*1/2,", "0*1/2;",
             "0*1,1*2,2*3,3*4", "0*1,1*2,2*3,3*4/5;6*7", "-;-;-;-;-;-;-;-;-;-", "0*1;0*1;0*1;0*1;0*1;0*1;0*1;0*1;0*1;0*1"};
         for (String text : right) {
             errorAt(text, text.length());
@@ -92,8 +93,10 @@ public final class TextsTest {
         CHECKS.equal("undo leaves the buffer", ship.clearBuffer(), 2);
         CHECKS.equal("undo restores the menus", ship.count(4), 3);
         CHECKS.equal("undo restores the items", ship.menu(2, 3, 1), 4);
-        CHECKS.equal("load ten", Checks.serve(ship, "-;-;-;-;-;-;-;-;-;2*9/1"), 10);
-        CHECKS.equal("the tenth", ship.menu(9, 0, 1), 9);
+        CHECKS.equal("load ten", Checks.serve(ship, "-;-;-;-;-;-;-;-;-;0*1,0*2,0*3,2*9/1"), 10);
+        CHECKS.equal("the last kind of the tenth", ship.menu(9, 3, 0), 2);
+        CHECKS.equal("the last amount of the tenth", ship.menu(9, 3, 1), 9);
+        CHECKS.equal("the last substitute of the tenth", ship.menu(9, 3, 2), 1);
     }
 
     private static void loadIsRefused() {
@@ -110,6 +113,7 @@ public final class TextsTest {
             Checks.write(ship, text);
             CHECKS.refused("load of " + text, ship, STATE, ship::load);
             CHECKS.equal("the buffer stays", ship.clearBuffer(), text.length());
+            CHECKS.equal("another load", Checks.serve(ship, "0*1,1*1;-"), 2);
         }
     }
 
