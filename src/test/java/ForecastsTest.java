@@ -256,6 +256,14 @@ public final class ForecastsTest {
         Checks.serve(full, "1*2");
         CHECKS.equal("a lot of another kind beyond the 30", full.leastPurchase(1, 2), 80);
         CHECKS.equal("it keeps for a day in 0", full.leastPurchase(1, 0), ShipStores.NONE);
+        ShipStores older = Ships.inPort();
+        for (int lot = 0; lot < 30; lot++) {
+            older.buy(1, 1, 1);
+        }
+        older.addPort(8, 0);
+        older.setCrew(5);
+        Checks.serve(older, "1*1");
+        CHECKS.equal("the lot beyond the 30 keeps longest, so it is eaten last", older.leastPurchase(1, 2), 20);
         ShipStores fresh = new ShipStores();
         fresh.addKind(3, 3, 3);
         fresh.addPort(0, 900);
