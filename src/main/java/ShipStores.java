@@ -360,7 +360,6 @@ public final class ShipStores {
         requireKind(kind);
         requireStore(store);
         int days = ship.daysToNextPort();
-        // a greater amount need not do where a lesser one does, as substitutes are eaten too: each is tried
         for (int amount = 0; amount <= MAX_TRIED; amount += TRIED_STEP) {
             trial.become(ship);
             if (amount > 0) {

@@ -327,15 +327,15 @@ public final class ForecastsTest {
 
     private static void digest() {
         ShipStores ship = new ShipStores();
-        CHECKS.equal("digest of a new ship", ship.digest(), digestOf(ship, 0));
+        CHECKS.equal("digest of a new ship", ship.digest(), Digest.of(ship, ""));
         Checks.write(ship, "0*1,x");
-        CHECKS.equal("digest with a buffer", ship.digest(), digestOf(ship, 5, '0', '*', '1', ',', 'x'));
+        CHECKS.equal("digest with a buffer", ship.digest(), Digest.of(ship, "0*1,x"));
         ship.clearBuffer();
-        CHECKS.equal("digest with a clear buffer", ship.digest(), digestOf(ship, 0));
+        CHECKS.equal("digest with a clear buffer", ship.digest(), Digest.of(ship, ""));
         ShipStores provisioned = provisioned();
         provisioned.addPort(17, 5);
         for (int days = 0; days < 30; days++) {
-            CHECKS.equal("digest on the day " + days, provisioned.digest(), digestOf(provisioned, 0));
+            CHECKS.equal("digest on the day " + days, provisioned.digest(), Digest.of(provisioned, ""));
             provisioned.pass(1);
         }
         ShipStores stale = new ShipStores();
@@ -344,7 +344,7 @@ public final class ForecastsTest {
             stale.addPort(0, staleness);
             stale.setPrice(0, 0, 1);
             stale.buy(0, 1 + staleness % 40, 0);
-            CHECKS.equal("digest at the age " + staleness, stale.digest(), digestOf(stale, 0));
+            CHECKS.equal("digest at the age " + staleness, stale.digest(), Digest.of(stale, ""));
             if (stale.count(2) == 3) {
                 stale.discard(0, stale.lot(0, 2));
             }
@@ -360,55 +360,8 @@ public final class ForecastsTest {
             fresh.addPort(0, 0);
             fresh.setPrice(0, 0, 1);
             fresh.buy(0, 37, 2);
-            CHECKS.equal("digest at a mean age below 1", fresh.digest(), digestOf(fresh, 0));
+            CHECKS.equal("digest at a mean age below 1", fresh.digest(), Digest.of(fresh, ""));
         }
-    }
-
-    /** The digest as the document tells it, from the answers of the other calls. */
-    private static long digestOf(ShipStores ship, long... buffer) {
-        long hash = 2203;
-        for (int what = 0; what <= 12; what++) {
-            hash = 31 * hash + ship.count(what);
-        }
-        for (int lot = 0; lot < ship.count(2); lot++) {
-            for (int what = 0; what <= 5; what++) {
-                hash = 31 * hash + ship.lot(lot, what);
-            }
-        }
-        for (int store = 0; store < 3; store++) {
-            for (int what = 0; what <= 3; what++) {
-                hash = 31 * hash + ship.store(store, what);
-            }
-        }
-        for (int kind = 0; kind < ship.count(1); kind++) {
-            for (int what = 0; what <= 9; what++) {
-                hash = 31 * hash + ship.kind(kind, what);
-            }
-            hash = 31 * hash + ship.shortIn(kind);
-            hash = 31 * hash + ship.bestStore(kind);
-        }
-        for (int port = 0; port < ship.count(3); port++) {
-            hash = 31 * hash + ship.port(port, 0);
-            hash = 31 * hash + ship.port(port, 1);
-            for (int kind = 0; kind < ship.count(1); kind++) {
-                hash = 31 * hash + ship.port(port, 10 + kind);
-            }
-        }
-        for (int menu = 0; menu < ship.count(4); menu++) {
-            for (int item = 0; item < 4; item++) {
-                for (int what = 0; what <= 2; what++) {
-                    hash = 31 * hash + ship.menu(menu, item, what);
-                }
-            }
-        }
-        for (int what = 0; what <= 4; what++) {
-            hash = 31 * hash + ship.ifPass(14, what);
-        }
-        hash = 31 * hash + Double.doubleToLongBits(ship.meanAge());
-        for (long value : buffer) {
-            hash = 31 * hash + value;
-        }
-        return hash;
     }
 
     /** Each of these changes one thing, and the digest with it. */
