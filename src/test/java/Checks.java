@@ -27,12 +27,16 @@ final class Checks {
         System.out.println(text);
     }
 
-    /** The call throws just this exception and changes nothing that the digest sees. */
+    /**
+     * The call throws just this exception and changes nothing that the digest sees. If it does not throw, the program
+     * ends, as a farther argument may hang.
+     */
     void refused(String what, ShipStores ship, Class<? extends RuntimeException> due, Call call) {
         made++;
         long before = ship.digest();
         try {
             fail(what + " answered " + call.answer() + ", due is " + due.getSimpleName());
+            end("stopped");
         } catch (RuntimeException thrown) {
             if (thrown.getClass() != due) {
                 fail(what + " threw " + thrown + ", due is " + due.getSimpleName());

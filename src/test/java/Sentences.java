@@ -31,6 +31,10 @@ final class Sentences {
         }
     }
 
+    private static final class NotRefused extends RuntimeException {
+        private static final long serialVersionUID = 1;
+    }
+
     private final Document document;
     private final List<Quote> quotes = new ArrayList<>();
     private final Checks checks = new Checks();
@@ -56,6 +60,8 @@ final class Sentences {
         }
         try {
             test.run();
+        } catch (NotRefused stopped) {
+            return;
         } catch (RuntimeException thrown) {
             checks.fail(name("threw " + thrown));
         }
@@ -84,7 +90,7 @@ final class Sentences {
         }
     }
 
-    /** The call throws just this exception. */
+    /** The call throws just this exception; if not, the test of the sentence stops, as a farther argument may hang. */
     void thrown(String what, ShipStores ship, Class<? extends RuntimeException> due, Call call) {
         checksOfSentence++;
         Class<?> got = null;
@@ -94,6 +100,9 @@ final class Sentences {
             got = exception.getClass();
         }
         checks.holds(name(what + " threw " + got + ", due is " + due), got == due);
+        if (got != due) {
+            throw new NotRefused();
+        }
     }
 
     /** The call throws just this exception, and its ship is as another one that was not called. */
